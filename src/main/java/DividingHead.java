@@ -334,7 +334,7 @@ public final class DividingHead {
     private int plainCircle(int n) {
         int fewest = NONE;
         for (int c = 0; c < circleCount; c++) {
-            boolean does = exactQuotient((long) wheelTeeth * circleHoles[c], n) != 0;
+            boolean does = exactQuotient(wheelTeeth * circleHoles[c], n) != 0;
             if (does && (fewest == NONE || circleHoles[c] < circleHoles[fewest])) {
                 fewest = c;
             }
@@ -357,8 +357,8 @@ public final class DividingHead {
 
     /** The a that goes with b; 0: there is none. */
     private int firstStep(int firstHoles, int secondHoles, int n, int b) {
-        long left = (long) wheelTeeth * secondHoles - (long) b * n;
-        return (int) exactQuotient(firstHoles * left, (long) n * secondHoles);
+        int left = wheelTeeth * secondHoles - b * n;
+        return (int) exactQuotient(firstHoles * left, n * secondHoles);
     }
 
     private int compoundTerm(int h, int k, int n, int b, int what) {
@@ -391,7 +391,7 @@ public final class DividingHead {
 
     private boolean standsIn(int m, int n) {
         return !isNoNumberOfParts(m) && plainCircle(m) != NONE
-                && findTrain((long) Math.abs(m - n) * wheelTeeth, m);
+                && findTrain(Math.abs(m - n) * wheelTeeth, m);
     }
 
     private boolean findTrain(long p, long q) {
@@ -422,7 +422,7 @@ public final class DividingHead {
     private boolean findSecondPair(int a, int b, long p, long q) {
         for (int c = 0; c < gearCount; c++) {
             if (c != a && c != b) {
-                long upper = (long) gearTeeth[a] * gearTeeth[c] * q;
+                long upper = gearTeeth[a] * gearTeeth[c] * q;
                 int d = gearWith(exactQuotient(upper, gearTeeth[b] * p), a, b, c);
                 if (d != NONE) {
                     return keepTrain(a, b, c, d);
@@ -453,7 +453,7 @@ public final class DividingHead {
     // ---- cuts
 
     private int nearestHole(int holes, int n, int i) {
-        return (int) nearestOrGreater((long) i * wheelTeeth * holes, n);
+        return (int) nearestOrGreater(i * wheelTeeth * holes, n);
     }
 
     /** The MISS of a cut in N-ths of a HOLE. */
@@ -507,7 +507,7 @@ public final class DividingHead {
         return nearest;
     }
 
-    /** How far the nearest fraction with this lower number is off: the upper number above q lower. */
+    /** How far off the nearest fraction of this lower number is: the upper number above q lower. */
     private static long gapUpper(int p, int q, int lower) {
         long share = (long) p * lower;
         return Math.abs(nearestOrLesser(share, q) * q - share);

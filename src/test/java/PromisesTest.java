@@ -16,6 +16,7 @@ public final class PromisesTest {
         holesOfCircles();
         gears();
         teethOfGears();
+        fullRows();
         plainParts();
         compoundParts();
         compoundChoice();
@@ -101,6 +102,31 @@ public final class PromisesTest {
         due.is("3 FULL ahead of NO", head.circle(5), -4);
         due.is("3 OUTSIDE ahead of FULL", head.circle(4), -2);
         due.is("3 eight are kept", head.told(1), 8);
+    }
+
+    /** With all circles and all gears, where a search would go one too far. */
+    private static void fullRows() {
+        DividingHead head = withCircles(120, 60, 30, 20, 15, 12, 10, 5);
+        for (int g = 0; g < 10; g++) {
+            head.gear(24 + 12 * (g % 2));
+        }
+        due.is("4 the last circle", head.holes(7), 5);
+        due.is("4 behind the last circle", head.holes(8), -1);
+        due.is("6 the last gear", head.teeth(9), 36);
+        due.is("6 behind the last gear", head.teeth(10), -1);
+        due.is("7 the last circle", head.plain(2, 0), 7);
+        due.is("7 none of eight", head.plain(7, 0), -6);
+        due.is("8 none of eight", head.compound(7, 0), FAR_NO);
+        // 60, 64 and 75 are PLAIN: shares 14 by 3, 15 by 8 and 64 by 15.
+        due.is("9 none of all", head.differential(67, 0), -6);
+        due.is("10 none of ten", head.train(7, 1, 0), -6);
+        due.is("10 four of ten", head.train(9, 4, 3), 2);
+        due.is("11 behind the last circle", head.hole(8, 9, 1), -1);
+        due.is("12 behind the last circle", head.miss(8, 9, 1, 0), FAR_UNKNOWN);
+        due.is("13 behind the last circle", head.worst(8, 9, 0), -1);
+        due.is("14 of eight", head.best(7), 0);
+        due.is("16 behind the last circle", head.spoilt(8, 1, 1, 0), FAR_UNKNOWN);
+        due.is("17 behind the last circle", head.extreme(8, 1, 1, 0), -1);
     }
 
     private static void holesOfCircles() {
@@ -271,6 +297,12 @@ public final class PromisesTest {
         differential("9 ten off", ten, 50, 40, 0, 0, 1, -6, -6, 0);
         // 51 is 11 off 40, and 1 off 50: share 4 by 5.
         differential("9 eleven off", ten, 51, -6, -6, -6, -6, -6, -6, -6);
+        // Beside 89 and 111 only 100 is PLAIN, 11 off, share 22 by 5.
+        DividingHead eleven = withCircles(5);
+        eleven.gear(88);
+        eleven.gear(20);
+        differential("9 eleven off, the greater", eleven, 89, -6, -6, -6, -6, -6, -6, -6);
+        differential("9 eleven off, the lesser", eleven, 111, -6, -6, -6, -6, -6, -6, -6);
         // 1000 is PLAIN with 25 holes: share 1 by 25 is 12 by 120 times 48 by 120.
         DividingHead most = withCircles(25);
         for (int teeth : new int[] {12, 120, 48, 120}) {
@@ -527,6 +559,12 @@ public final class PromisesTest {
         // Cut 2 is at 22 HOLES, 6 behind a whole turn.
         due.is("17 through turns", head.extreme(0, 11, 1000, 0), 2);
         due.is("17 the greatest step", head.extreme(0, 100000, 1000, 0), 0);
+        due.is("17 cut 1", head.extreme(0, 6, 1000, 0), 1);
+        due.is("17 cut 1, the least", head.extreme(0, 10, 1000, 1), 1);
+        head.error(0, 50);
+        due.is("17 cut 0 ahead of a whole turn", head.extreme(0, 1, 1000, 0), 0);
+        head.error(0, -50);
+        due.is("17 cut 0 ahead of a whole turn, the least", head.extreme(0, 1, 1000, 1), 0);
         for (int what = 0; what < 2; what++) {
             due.is("17 unknown circle", head.extreme(1, 1, 1, what), -1);
             due.is("17 circle -1", head.extreme(-1, 1, 1, what), -1);
@@ -556,6 +594,10 @@ public final class PromisesTest {
         near("18 of both the lesser", 7, 2, 1, 3, 1);
         // 1 by 4: 0 by 1 is a 4th off, 1 by 2 as well, 1 by 3 a 12th.
         near("18 the least lower number", 1, 4, 2, 0, 1);
+        // 2 by 5: 1 by 2 is a 10th off, 1 by 3 a 15th.
+        near("18 the last one", 2, 5, 3, 1, 3);
+        near("18 a half by ten", 1, 2, 10, 1, 2);
+        near("18 great ones", 999999, 10000, 10000, 999999, 10000);
         // 3 by 4: 1 by 1 is a 4th off, 1 by 2 as well.
         near("18 the least lower number, above", 3, 4, 2, 1, 1);
         near("18 a half by whole ones", 1, 2, 1, 0, 1);
