@@ -4,8 +4,8 @@ import java.util.List;
 import java.util.Random;
 
 /**
- * Many calls against answers found the longest way round: every candidate is looked at, in
- * fractions without bounds. The seed is fixed, so each run asks the same.
+ * Many calls against answers found another way: mostly the longest way round, every candidate
+ * being looked at, in fractions without bounds. The seeds are fixed, so each run asks the same.
  */
 public final class ModelTest {
     private static final int FAR_UNKNOWN = -1000000001, FAR_OUTSIDE = -1000000002;
@@ -47,7 +47,7 @@ public final class ModelTest {
             askError(eighth, random.nextInt(201) - 100);
         }
         for (int call = most + mostGears + 8; call < CALLS; call++) {
-            ask(random.nextInt(24));
+            ask(random.nextInt(25));
         }
     }
 
@@ -73,6 +73,7 @@ public final class ModelTest {
             case 20 -> askNear(around(1, 50), around(1, 50), around(1, 60), around(0, 1));
             case 21 -> askRead(around(0, 2));
             case 22 -> askTwo(around(-1000, 1000), around(0, 1));
+            case 23 -> askNearFarOn();
             default -> askKept();
         }
     }
@@ -453,6 +454,36 @@ public final class ModelTest {
         }
         due.is("near(" + p + ", " + q + ", " + limit + ", " + what + ")",
                 head.near(p, q, limit, what), want);
+    }
+
+    /** Limits too far on to look at every candidate: the two fractions next to the share are. */
+    private void askNearFarOn() {
+        int p = 1 + random.nextInt(random.nextBoolean() ? 1000000 : 1000);
+        int q = 1 + random.nextInt(random.nextBoolean() ? 1000000 : 30000);
+        int limit = Math.min(10000, Math.max(1, around(1, 10000)));
+        Fraction want = nearestNeighbour(p, q, limit);
+        String call = "near(" + p + ", " + q + ", " + limit + ", ";
+        due.is(call + "0)", head.near(p, q, limit, 0), want.term(0));
+        due.is(call + "1)", head.near(p, q, limit, 1), want.term(1));
+    }
+
+    /** Between two neighbours that enclose the share the next one by lower number is their mediant. */
+    private static Fraction nearestNeighbour(long p, long q, int limit) {
+        long[] below = {p / q, 1};
+        long[] above = {p / q + 1, 1};
+        while (below[0] * q != p * below[1] && below[1] + above[1] <= limit) {
+            long[] between = {below[0] + above[0], below[1] + above[1]};
+            if (between[0] * q <= p * between[1]) {
+                below = between;
+            } else {
+                above = between;
+            }
+        }
+        Fraction share = new Fraction(p, q);
+        Fraction lesser = new Fraction(below[0], below[1]);
+        Fraction greater = new Fraction(above[0], above[1]);
+        int gaps = share.less(lesser).size().compareTo(share.less(greater).size());
+        return gaps < 0 || gaps == 0 && below[1] <= above[1] ? lesser : greater;
     }
 
     private int mainOf(Fraction place) {
